@@ -726,7 +726,7 @@ public final class HomeFreed {
             while (at < tape.length && tape.bytes[at] == BLANK) {
                 at++;
             }
-            return signHere();
+            return at < tape.length ? tape.bytes[at] : NONE;
         }
 
         void pass() {
@@ -896,7 +896,7 @@ public final class HomeFreed {
         }
 
         int blocksOf(int kind) {
-            return isKind(kind) && sizes[kind] > 0 ? values[UNITS] / sizes[kind] : 0;
+            return kind >= 0 && kind < kinds && sizes[kind] > 0 ? values[UNITS] / sizes[kind] : 0;
         }
     }
 
@@ -1756,8 +1756,11 @@ public final class HomeFreed {
             fewestPages = MOST_PAGES;
         }
 
-        /** Goes on from the STEPS i and j; the heap of this level is used up by it, a level more for each STEP of the one. */
-        void mix(int level, int i, int j) {
+        /** Goes on from the STEPS i and j; the heap of this level is used up by it, a STEP of the one takes the next level's. */
+        private void mix(int level, int i, int j) {
+            if (level >= heaps.length || i > MOST_MIXED_STEPS || j > MOST_MIXED_STEPS) {
+                return;
+            }
             int restOfOne = one.steps - i;
             int restOfOther = other.steps - j;
             if (restOfOne <= 0 && restOfOther <= 0) {
