@@ -235,6 +235,18 @@ public final class PromisesTest {
         is("page", x.list(-1, 0, 0), NONE);
         is("empty page", x.list(1, 0, 0), NONE);
         is("i", x.list(0, 0, -1), NONE);
+        HomeFreed y = Check.arena("st3p2u6b3h30;c;cz2;cz3;cz4;cz5;cz6");
+        y.get(0, 6);
+        y.get(1, 1);
+        y.free(2, 100);
+        is("not the next page's list", y.list(0, 3, 0), NONE);
+        is("not the page's ahead", y.list(1, -3, 0), NONE);
+        promise("12");
+        is("not another thread's outbox", y.outbox(1, 17, 0), NONE);
+        is("not another thread's outbox", y.outbox(3, -15, 0), NONE);
+        promise("11");
+        is("not the next thread's queue", y.queue(0, 6, 0), NONE);
+        is("not the queue of the thread ahead", y.queue(1, -1, 0), NONE);
     }
 
     private static void thread() {
@@ -976,6 +988,13 @@ public final class PromisesTest {
         is("most", y.ways(2, 3, 2), 1);
         is("fewest", y.ways(2, 3, 3), 0);
         is("the other way round", y.ways(3, 2, 1), 2);
+        HomeFreed z = Check.arena("st2p2u4b9h30;cz4");
+        Check.tell(z, "k0;k0;k0;k0;k0;x0", 1);
+        Check.tell(z, "g0:1", 1);
+        is("six steps and one", z.ways(0, 1, 0), 7);
+        is("not behind the end", z.ways(0, 1, 1), 6);
+        is("the other way round", z.ways(1, 0, 1), 6);
+        is("fewest", z.ways(0, 1, 3), 0);
     }
 
     private static void shares() {
