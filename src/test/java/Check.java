@@ -1,10 +1,62 @@
+import java.io.IOException;
+import java.io.UncheckedIOException;
 import java.nio.charset.StandardCharsets;
-import java.util.NoSuchElementException;
+import java.nio.file.Files;
+import java.nio.file.Path;
 
-/** What the tests share: counting wrong answers, and feeding texts. */
+/** What the tests share: counting wrong answers, quoting the document, and feeding texts. */
 final class Check {
+    private static final Path DOCUMENT = Path.of("../shared/DOC.md");
+
     private int asked = 0;
     private int wrong = 0;
+    private String document = "";
+    private String said = "";
+
+    /** The sentence that the answers behind it are about; a quote that does not stand in the document counts as wrong. */
+    void said(String sentence) {
+        if (document.isEmpty()) {
+            document = plain(read());
+        }
+        said = sentence;
+        same("the document says '" + sentence + "'", document.contains(plain(sentence)) ? 1 : 0, 1);
+    }
+
+    private static String read() {
+        try {
+            return Files.readString(DOCUMENT);
+        } catch (IOException e) {
+            throw new UncheckedIOException(e);
+        }
+    }
+
+    private static String plain(String text) {
+        return text.replaceAll("\\s+", " ");
+    }
+
+    void is(String what, long got, long want) {
+        same("'" + said + "': " + what, got, want);
+    }
+
+    void are(String what, int[] got, int... want) {
+        is(what + ", how many", got.length, want.length);
+        for (int i = 0; i < Math.min(got.length, want.length); i++) {
+            is(what + " " + i, got[i], want[i]);
+        }
+    }
+
+    /** Two texts of many lines; only the first line that differs is told. */
+    void alike(String what, String got, String want) {
+        String[] gotLines = got.split("\n");
+        String[] wantLines = want.split("\n");
+        int i = 0;
+        while (i < Math.min(gotLines.length, wantLines.length) && gotLines[i].equals(wantLines[i])) {
+            i++;
+        }
+        String gotLine = i < gotLines.length ? gotLines[i] : "nothing";
+        String wantLine = i < wantLines.length ? wantLines[i] : "nothing";
+        is(what + ", line " + i + ", '" + gotLine + "' for '" + wantLine + "'", got.equals(want) ? 1 : 0, 1);
+    }
 
     void same(String what, long got, long want) {
         asked++;
@@ -17,13 +69,7 @@ final class Check {
     }
 
     void throwsNoSuch(String what, HomeFreed x, int page, int of) {
-        boolean thrown = false;
-        try {
-            x.page(page, of);
-        } catch (NoSuchElementException e) {
-            thrown = true;
-        }
-        same(what + " throws", thrown ? 1 : 0, 1);
+        same(what + " throws", Shown.pageOf(x, page, of) == Shown.THROWN ? 1 : 0, 1);
     }
 
     int wrongs() {
@@ -68,5 +114,12 @@ final class Check {
         HomeFreed x = new HomeFreed();
         feed(x, text);
         return x.fault(sort);
+    }
+
+    /** So many GETS of one THREAD, one behind the other. */
+    static void gets(HomeFreed x, int thread, int n, int many) {
+        for (int i = 0; i < many; i++) {
+            x.get(thread, n);
+        }
     }
 }

@@ -18,7 +18,6 @@ public final class EdgesTest {
         for (int seed = 0; seed < 400; seed++) {
             run(seed);
         }
-        refusedChangesNothing();
         CHECK.close("EdgesTest");
     }
 
@@ -88,66 +87,5 @@ public final class EdgesTest {
             case 37: return Check.tell(x, TEXTS[draw.nextInt(TEXTS.length)], draw.nextInt(2));
             default: return x.get(draw.nextInt(4), 1 + draw.nextInt(5));
         }
-    }
-
-    /** Each refused act leaves all but the status as it was. */
-    private static void refusedChangesNothing() {
-        HomeFreed x = Check.arena("st2p2u4b2h3;cz2");
-        Check.tell(x, "g0:1", 1);
-        for (int i = 0; i < 4; i++) {
-            x.get(0, 1);
-        }
-        x.turn(1);
-        String before = shown(x);
-        int acts = x.count(4);
-        x.get(0, 1);
-        x.get(2, 1);
-        x.get(0, 0);
-        x.get(0, 3);
-        x.get(1, 1);
-        x.free(1, 0);
-        x.free(0, 2);
-        x.free(0, 200);
-        x.free(5, 0);
-        x.tick(1);
-        x.tick(2);
-        x.send(1);
-        x.send(-1);
-        x.turn(2);
-        x.perform(1);
-        x.perform(-1);
-        x.years(0, 1L);
-        x.years(41, 1L);
-        x.back();
-        x.text(0);
-        x.text(1);
-        x.text(2);
-        CHECK.same("all is as before", before.equals(shown(x)) ? 1 : 0, 1);
-        CHECK.same("acts", x.count(4), acts);
-        CHECK.same("status 0", x.status(0), 9);
-        CHECK.same("status 1", x.status(1), 2);
-        CHECK.same("status 2", x.status(2), 4);
-        CHECK.same("status 3", x.status(3), 1);
-    }
-
-    private static String shown(HomeFreed x) {
-        StringBuilder all = new StringBuilder();
-        for (int p = 0; p < 2; p++) {
-            for (int what = 0; what < 7; what++) {
-                all.append(x.page(p, what)).append(' ');
-            }
-        }
-        for (int what = 0; what < 12; what++) {
-            all.append(x.most(what)).append(' ');
-        }
-        for (int t = 0; t < 2; t++) {
-            for (int i = 0; i < 3; i++) {
-                all.append(x.queue(t, 0, i)).append(' ').append(x.thread(t, i)).append(' ');
-            }
-        }
-        for (int i = 0; i < 5; i++) {
-            all.append(x.log(i, 0)).append(' ').append(x.count(i)).append(' ');
-        }
-        return all.toString();
     }
 }
