@@ -6,6 +6,7 @@ public final class ActBoundsTest {
     public static void main(String[] args) {
         atFirst();
         blocksOfPages();
+        pagesOfAllSorts();
         queuesAndOutboxes();
         classOfGet();
         collecting();
@@ -104,6 +105,24 @@ public final class ActBoundsTest {
         statusIs(x, 11, 0, 0, 1);
         CHECK.is("it is freed", x.free(0, 1539), 0);
         listIs(x, 15, 1, 39);
+    }
+
+    private static void pagesOfAllSorts() {
+        CHECK.said("Of a PAGE: 0 what it is (0 EMPTY, 1 QUEUED, 2 FULL, 3 ABANDONED), 1 its OWNER (NONE), 2 its CLASS (NONE), "
+                + "3 USED, 4, 5, 6 how many are READY, LOCAL, FOREIGN (0).");
+        HomeFreed x = Check.arena("st3p5u7b1h30;cz2;cz3");
+        Check.gets(x, 1, 3, 3);
+        Check.gets(x, 2, 2, 2);
+        x.free(1, 200);
+        x.turn(2);
+        pageIs(x, 0, 2, 1, 1, 2, 0, 0, 0);
+        pageIs(x, 1, 1, 1, 1, 1, 1, 0, 0);
+        pageIs(x, 2, 3, NONE, 0, 1, 1, 0, 1);
+        pageIs(x, 3, 0, NONE, NONE, 0, 0, 0, 0);
+        x.free(1, 100);
+        x.free(0, 0);
+        pageIs(x, 0, 2, 1, 1, 1, 0, 0, 1);
+        pageIs(x, 1, 1, 1, 1, 0, 1, 1, 0);
     }
 
     private static void queuesAndOutboxes() {
@@ -469,12 +488,26 @@ public final class ActBoundsTest {
             listIs(x, 0, 2, want);
             CHECK.is("another thread's does not count", x.free(2, 9), batch == 1 ? 2 : 1);
         }
-        CHECK.said("2 it went HOME");
+        CHECK.said("FREE: 0 it is LOCAL then (or its PAGE EMPTY), 1 in an OUTBOX, 2 it went HOME.");
         HomeFreed x = Check.arena("st2p2u4b2h30;c");
         Check.gets(x, 0, 1, 2);
         CHECK.is("an outbox", x.free(1, 1), 1);
         CHECK.is("home", x.free(1, 0), 2);
         CHECK.is("nothing is used, but it is owned", x.page(0, 0), 1);
+        Check.gets(x, 0, 1, 5);
+        CHECK.is("local", x.free(0, 100), 0);
+        Check.gets(x, 0, 1, 4);
+        for (int b = 0; b < 3; b++) {
+            CHECK.is("local", x.free(0, b), 0);
+        }
+        CHECK.is("its page is empty", x.free(0, 3), 0);
+        CHECK.is("its page is empty", x.page(0, 0), 0);
+        x.turn(0);
+        for (int b = 100; b < 103; b++) {
+            CHECK.is("an outbox, or home", x.free(1, b), b == 101 ? 2 : 1);
+        }
+        CHECK.is("home, though its page is empty by that", x.free(1, 103), 2);
+        CHECK.is("its page is empty", x.page(1, 0), 0);
     }
 
     private static void goingHome() {

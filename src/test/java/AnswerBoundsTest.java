@@ -403,6 +403,17 @@ public final class AnswerBoundsTest {
         CHECK.is("full ones are owned", x.most(1), 0);
         Check.gets(x, 1, 4, 3);
         CHECK.is("three of 1", x.most(1), 1);
+        HomeFreed one = Check.arena("st4p1u40b9h30;c");
+        one.get(3, 1);
+        CHECK.is("the only page", one.most(0), 0);
+        CHECK.is("of the last thread", one.most(1), 3);
+        CHECK.is("cheapest, too", one.cheapest(0), 0);
+        HomeFreed last = Check.arena("st1p16u4b9h30;cz2");
+        Check.gets(last, 0, 2, 32);
+        for (int p = 0; p < 15; p++) {
+            last.free(0, 100 * p);
+        }
+        CHECK.is("the last page", last.most(0), 15);
     }
 
     private static void bits() {

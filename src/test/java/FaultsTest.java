@@ -37,7 +37,7 @@ public final class FaultsTest {
         blanks();
         longestTexts();
         otherSigns();
-        CHECK.said("no such sort");
+        CHECK.said("The FAULT of the TAPE as an ARENA (0), a SCRIPT (1). NONE: none. -2: no such sort.");
         for (int sort : new int[] {Integer.MIN_VALUE, -2, -1, 2, 3, Integer.MAX_VALUE}) {
             CHECK.is("fault(" + sort + ")", Check.faultOf("c", sort), -2);
         }

@@ -14,6 +14,7 @@ public final class KeptBoundsTest {
         ending();
         newArenas();
         undoneActs();
+        undoneInTheLargest();
         fortyActs();
         undoneLog();
         sixtyLogged();
@@ -28,6 +29,9 @@ public final class KeptBoundsTest {
     }
 
     private static void newObject() {
+        CHECK.said("`NONE = -1`: None; refused. `HIDDEN = -1000000`: Not told.");
+        CHECK.is("NONE", NONE, -1);
+        CHECK.is("HIDDEN", HIDDEN, -1000000);
         CHECK.said("`HomeFreed()`: No ARENA.");
         HomeFreed x = new HomeFreed();
         for (int what = 0; what < 5; what++) {
@@ -182,6 +186,34 @@ public final class KeptBoundsTest {
         CHECK.alike("as at first", Shown.heap(x), states.get(0));
         x.get(0, 1);
         CHECK.is("an act anew", x.undo(), 0);
+    }
+
+    /** Four THREADS, sixteen PAGES, six CLASSES: the last one of each is undone and brought back, too. */
+    private static void undoneInTheLargest() {
+        CHECK.said("can be UNDONE one by one (LOG, too)");
+        HomeFreed x = Check.arena("st4p16u40b9h30;c;cz2;cz3;cz4;cz5;cz40");
+        for (int i = 0; i < 15; i++) {
+            x.get(i % 4, 40);
+        }
+        for (int i = 0; i < 8; i++) {
+            x.get(3, 5);
+        }
+        x.free(3, 1507);
+        x.free(2, 1506);
+        String before = Shown.heap(x);
+        CHECK.is("the last page is the last thread's, of the class ahead of the last", x.page(15, 1), 3);
+        int held = x.image();
+        x.turn(3);
+        CHECK.is("abandoned", x.page(15, 1), NONE);
+        x.get(0, 5);
+        CHECK.is("adopted", x.page(15, 1), 0);
+        x.undo();
+        x.undo();
+        CHECK.alike("undone", Shown.heap(x), before);
+        x.turn(3);
+        x.get(0, 5);
+        CHECK.is("back", x.back(), held);
+        CHECK.alike("back", Shown.heap(x), before);
     }
 
     private static void fortyActs() {
@@ -346,8 +378,6 @@ public final class KeptBoundsTest {
     }
 
     private static void drawnYears() {
-        CHECK.said("x, at first the seed, becomes x times 6364136223846793005 and 1442695040888963407 (64 bits, going round); "
-                + "a draw of j: (x shifted right by 33, without sign) modulo j.");
         long[] seeds = {0L, 1L, -1L, 2L, Long.MAX_VALUE, Long.MIN_VALUE, Long.MIN_VALUE + 1, 1L << 32, 1L << 33, -(1L << 33),
             0x123456789abcdef0L, 0xfedcba9876543210L, 6364136223846793005L, -1442695040888963407L};
         String[] arenas = {"st4p16u40b2h3;cz2;cz5;cz9;cz20;cz40", "st3p2u8b3h5;c;cz3", "st1p1u4b1h1;cz2", "c;cz3;cz16"};
@@ -382,9 +412,16 @@ public final class KeptBoundsTest {
                 if (dead) {
                     x.turn(0);
                 }
-                CHECK.is("years(" + n + ", " + seed + ") of " + arena, x.years(n, seed), y.most(7));
-                CHECK.alike("years(" + n + ", " + seed + ") of " + arena, Shown.heap(x), Shown.heap(y));
-                CHECK.are("no status", Shown.status(x), 0, 0, 0, 0);
+                String told = "years(" + n + ", " + seed + ") of " + arena;
+                CHECK.said("YEARS by a seed: n (1 .. 40) times: a draw of how many THREADS there are; a draw of 3; "
+                        + "by 0 and 1: a draw of UNITS: that THREAD GETS 1 more than it; by 2: is any BLOCK HELD, "
+                        + "a draw of how many are: that one of these, rising, is FREED by it");
+                CHECK.is(told, x.years(n, seed), y.most(7));
+                CHECK.said("x, at first the seed, becomes x times 6364136223846793005 and 1442695040888963407 "
+                        + "(64 bits, going round); a draw of j: (x shifted right by 33, without sign) modulo j.");
+                CHECK.alike(told, Shown.heap(x), Shown.heap(y));
+                CHECK.said("No STATUS.");
+                CHECK.are(told, Shown.status(x), 0, 0, 0, 0);
             }
         }
         return hand;

@@ -45,7 +45,7 @@ public final class ScriptBoundsTest {
     }
 
     private static void fourScripts() {
-        CHECK.said("SCRIPTS (4 at most) are TEXTS");
+        CHECK.said("a SCRIPT: its number. NONE: a FAULT, no such sort, there are four SCRIPTS.");
         HomeFreed x = new HomeFreed();
         for (int i = 0; i < 4; i++) {
             CHECK.is("number", Check.tell(x, "x" + i, 1), i);
@@ -427,6 +427,8 @@ public final class ScriptBoundsTest {
         for (int s = 0; s < 4; s++) {
             CHECK.is("alike " + s, x.ways(s, s, 0), NONE);
         }
+        CHECK.said("WAYS of two unlike SCRIPTS (6 STEPS each at most, no SCOPES)");
+        CHECK.is("told alike, but two", x.ways(3, 0, 1), 924);
         HomeFreed y = with("c", "k0" + ";k0".repeat(23), "k0;k0;k0;k0;(;)", "(;);k0;k0", "k0;k0");
         CHECK.is("24 steps", y.ways(0, 3, 0), NONE);
         CHECK.is("24 steps", y.ways(3, 0, 0), NONE);
