@@ -13,33 +13,33 @@ import java.util.regex.Matcher;
 import java.util.regex.Pattern;
 import java.util.stream.Collectors;
 import java.util.stream.Stream;
-import javax.tools.JavaCompiler;
-import javax.tools.ToolProvider;
 
 /** What README.md says is so: its examples are run, its calls, tests and files are looked for. */
 public final class ReadmeTest {
     private static final Pattern EXAMPLE = Pattern.compile("```java\n(.*?)```", Pattern.DOTALL);
     private static final Pattern ANSWERED = Pattern.compile("(.*); +// (-?\\d+)(:.*)?");
+    private static final Pattern ITEM =
+            Pattern.compile("\\| `(\\w)` of `(\\w)` \\|[^|]*\\| (\\d+) \\.\\. (\\d+)[^|]*\\| (\\d+) \\|");
     private static final Check CHECK = new Check();
 
-    public static void main(String[] args) throws ReflectiveOperationException, IOException {
+    public static void main(String[] args) throws ReflectiveOperationException, IOException, InterruptedException {
         String page = Files.readString(Path.of("README.md"));
         examples(page);
+        items(page);
         calls(page);
         tests(page);
         files(page);
         CHECK.close("ReadmeTest");
     }
 
-    /** The answers that the example gets, each ahead of the one that README.md tells, come back in one row. */
-    private static void examples(String page) throws ReflectiveOperationException, IOException {
+    private static void examples(String page)
+            throws ReflectiveOperationException, IOException, InterruptedException {
         List<String> asked = new ArrayList<>();
         String source = sourceOf(page, asked);
         Path place = Files.createTempDirectory("readme");
         Path file = Files.writeString(place.resolve("Example.java"), source);
-        JavaCompiler compiler = ToolProvider.getSystemJavaCompiler();
-        int failed = compiler.run(null, null, null, "-cp", System.getProperty("java.class.path"), "-d", place.toString(),
-                file.toString());
+        int failed = new ProcessBuilder("javac", "-cp", System.getProperty("java.class.path"), "-d", place.toString(),
+                file.toString()).inheritIO().start().waitFor();
         CHECK.same("the examples compile", failed, 0);
         if (failed == 0) {
             long[] rows = answersOf(place);
@@ -56,6 +56,7 @@ public final class ReadmeTest {
         Files.delete(place);
     }
 
+    /** A class that answers in one row what each example line gets and, behind it, what README.md tells. */
     private static String sourceOf(String page, List<String> asked) {
         StringBuilder members = new StringBuilder();
         StringBuilder main = new StringBuilder();
@@ -83,6 +84,23 @@ public final class ReadmeTest {
         try (URLClassLoader loader = new URLClassLoader(new URL[] {place.toUri().toURL()})) {
             return (long[]) loader.loadClass("Example").getMethod("answers").invoke(null);
         }
+    }
+
+    private static void items(String page) {
+        int rows = 0;
+        for (Matcher m = ITEM.matcher(page); m.find(); rows++) {
+            String item = m.group(1);
+            boolean ofClass = m.group(2).equals("c");
+            HomeFreed usual = Check.arena("c");
+            int without = ofClass ? usual.size(0) : usual.rule("tpubh".indexOf(item));
+            CHECK.same("without " + item, Integer.parseInt(m.group(5)), without);
+            for (int v = 0; v < 100; v++) {
+                boolean told = v >= Integer.parseInt(m.group(3)) && v <= Integer.parseInt(m.group(4));
+                String text = ofClass ? "su40;c" + item + v : "s" + item + v + ";c";
+                CHECK.same("'" + text + "' is right", told ? 1 : 0, Check.faultOf(text, 0) == HomeFreed.NONE ? 1 : 0);
+            }
+        }
+        CHECK.same("items", rows, 6);
     }
 
     private static void calls(String page) {
